@@ -75,6 +75,7 @@ public final class ClothPull {
     private final Evening evening = search.evening;
     private final Row row = new Row();
     private boolean isKept = false;
+    private int lawsRead = 0;
 
     public ClothPull() {
     }
@@ -169,6 +170,7 @@ public final class ClothPull {
             return fault;
         }
         rules.copy(newRules);
+        lawsRead++;
         return rules.clauses;
     }
 
@@ -207,19 +209,8 @@ public final class ClothPull {
             return NONE;
         }
         search.lay(table, drawn);
-        search.bestPull();
-        switch (what) {
-            case 0:
-                return search.first;
-            case 1:
-                return search.second;
-            case 2:
-                return search.third;
-            case 3:
-                return search.standing;
-            default:
-                return search.inches;
-        }
+        search.bestPull(lawsRead);
+        return search.bestIs(what);
     }
 
     public int put(int things, int what) {
@@ -460,6 +451,20 @@ public final class ClothPull {
         /** A fold that is not below the cloth's end is none. */
         boolean hasFold(int q) {
             return within(q, 0, FOLDS - 1) && (folds & (1 << q)) != 0 && foldPlace(q) < end;
+        }
+
+        /** Whether an evening without slips would be the same. */
+        boolean isAs(Table other) {
+            if (other == null || length != other.length || end != other.end || folds != other.folds
+                || told != other.told) {
+                return false;
+            }
+            for (int i = 0; i < sides.length; i++) {
+                if (sides[i] != other.sides[i]) {
+                    return false;
+                }
+            }
+            return true;
         }
 
         void copy(Table from) {
@@ -1451,8 +1456,10 @@ public final class ClothPull {
         private int inches = 0;
         private int first = 0;
         private int second = 0;
-        private int third = 0;
         private int fits = 0;
+        private final int[] best = new int[5];
+        private final Table bestTable = new Table();
+        private int bestLaw = NONE;
 
         Search(Law law) {
             evening = new Evening(law);
@@ -1491,7 +1498,17 @@ public final class ClothPull {
             return true;
         }
 
-        void bestPull() {
+        int bestIs(int what) {
+            return within(what, 0, best.length - 1) ? best[what] : NONE;
+        }
+
+        /** The five answers are asked one by one: they are kept while the table and the law are the same. */
+        void bestPull(int lawNumber) {
+            if (lawNumber == bestLaw && table.isAs(bestTable)) {
+                return;
+            }
+            bestLaw = lawNumber;
+            bestTable.copy(table);
             standing = NONE;
             for (int p = 1; p <= 12; p++) {
                 for (int q = 1; q <= 12; q++) {
@@ -1501,13 +1518,15 @@ public final class ClothPull {
                         pull.addTill(q, table.end - p * k);
                         evening.run();
                         if (improves()) {
-                            first = p;
-                            second = q;
-                            third = k;
+                            best[0] = p;
+                            best[1] = q;
+                            best[2] = k;
                         }
                     }
                 }
             }
+            best[3] = standing;
+            best[4] = inches;
         }
 
         void bestRow(Row row, Table from) {
