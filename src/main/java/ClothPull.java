@@ -1420,15 +1420,15 @@ public final class ClothPull {
         /** The next larger row; false: there is none. */
         boolean next() {
             int rise = Math.min(size, MOST) - 2;
-            for (; rise >= 0 && gets[rise] > gets[rise + 1]; rise--) {
-                continue;
+            while (rise >= 0 && gets[rise] > gets[rise + 1]) {
+                rise--;
             }
             if (rise < 0) {
                 return false;
             }
             int larger = Math.min(size, MOST) - 1;
-            for (; larger > rise + 1 && gets[larger] < gets[rise]; larger--) {
-                continue;
+            while (larger > rise + 1 && gets[larger] < gets[rise]) {
+                larger--;
             }
             swap(rise, larger);
             for (int low = rise + 1, high = size - 1; low < high; low++, high--) {

@@ -68,7 +68,7 @@ public final class ModelTest {
         }
         if (one(3)) same("keep()", real.keep(), model.keep());
         StringBuilder law = new StringBuilder();
-        String[] amounts = {"1", "2", "3", "2+w", "1+k", "[g/9]+1", "u/2+1", "f-w", "9-w", "x%4", "t+1", "l", "c", "c-u", "i+1"};
+        String[] amounts = {"1", "2", "3", "2+w", "1+k", "1", "[g/9]+1", "u/2+1", "f-w", "9-w", "x%4", "t+1", "l", "c", "c-u", "i+1", "p", "9-p", "1+p"};
         for (char letter : "abszjhab".toCharArray()) {
             if (one(5)) continue;
             if (law.length() > 0) law.append(';');
@@ -138,7 +138,12 @@ public final class ModelTest {
                 return;
             }
             case 11: same("pace()", real.pace(), model.pace()); return;
-            case 12: { if (one(12)) for (int w = -1; w < 6; w++) same("best(" + w + ")", real.best(w), model.best(w)); return; }
+            case 12: {
+                if (!one(6)) return;
+                int[] best = model.best();
+                for (int w = -1; w < 6; w++) same("best(" + w + ")", real.best(w), w < 0 || w > 4 ? -1 : best[w]);
+                return;
+            }
             case 13: {
                 if (!one(3)) return;
                 int set = one(2) ? model.now.bits() : n(1024) & model.now.bits();

@@ -15,10 +15,12 @@ public final class PromisesTest {
         lawFaults();
         lawValues();
         lawRefusals();
+        lawBounds();
         tried();
         stillSlides();
         stillRocksFallsSpills();
         stillTouches();
+        stillTen();
         stillFolds();
         done();
         thingIs();
@@ -159,6 +161,9 @@ public final class PromisesTest {
         x.feed(0, 0, 0, 0, 0);
         for (int n : new int[] {0, -1, 121, 21, BIG, SMALL}) due.is("pull " + n, x.pull(n), -1);
         due.is("the tape stays", x.count(6), 20);
+        Due.feed(x, "1".repeat(180));
+        due.is("pull 121 of 200", x.pull(121), -1);
+        due.is("the tape stays", x.count(6), 200);
         due.is("5,7*3,40", Due.pull(x, "5,7*3,40"), 5);
         int[] paces = {5, 7, 7, 7, 40, -1};
         for (int t = 0; t < 6; t++) due.is("pace " + t, x.count(100 + t), paces[t]);
@@ -191,6 +196,9 @@ public final class PromisesTest {
         x.feed(0, 0, 0, 0, 0);
         for (int n : new int[] {0, -1, 201, 21, BIG, SMALL}) due.is("law " + n, x.law(n), -1);
         due.is("the tape stays", x.count(6), 20);
+        Due.feed(x, "1".repeat(200));
+        due.is("law 201 of 220", x.law(201), -1);
+        due.is("the tape stays", x.count(6), 220);
         String[] texts = {"a1(t=t)", "q1(t=t)", "a", "a(t=t)", "a1", "a1t=t", "a1()", "a1(t)", "a1(t=)", "a1(t=t", "a1(t=t)x", "a1(t=t);", "a1(t=t))",
             "a12345(t=t)", "a123456(t=t)", "a1(t=123456)", "a-1(t=t)", "a1 (t=t)", "a[1(t=t)", "a[1]](t=t)", "a1((t)=t)", "a1(t=t=t)", "a1(!t=t&!t=t)",
             "a1(t=t&)", "a1(t=t||t=t)", "az(t=t)", "a1(h=t)", "A1(t=t)", "a(1)(t=t)", "a1+(t=t)", "a1+2*3/4%5-6(t<1|t>2&t=3)", "a1(t=t);;", "a1([t]=[t+1])", "a1(t=t!)", "a1t(t=t)"};
@@ -276,6 +284,34 @@ public final class PromisesTest {
         due.is("not asked behind an & that does not", quicker("a7(1=2&1/0=0|1=1)"), 7);
         due.is("asked behind an & that holds", quicker("a7(1=1&1/0=0|1=1)"), 0);
         due.is("s through 0 is 1 yet", ending("s1/0(t=t);a1(t=t);b99(t=t)"), 30 - 6 - 2 - 1);
+    }
+
+    /** One thing at 100, where a fold is, on a cloth of 200. */
+    private static ClothPull bound(String law, String pull, int height) {
+        ClothPull x = with(200, 8, law, pull);
+        x.thing(0, 0, 100, 1, height, 1);
+        return x;
+    }
+
+    private static void lawBounds() {
+        // By the cloth 40, by the fold 40: 80 inches in the first tick, then one less, over the edge.
+        ClothPull x = bound("a99(t=t);j99(t=t);b999(t=t);s99(t=t)", "40,40,40", 1);
+        due.is("a and j are 40 at most", x.still(30), 80 + 79);
+        x = with(60, 0, "s0-5(t=t);a3(t=0);b99(t=t)", "5,30");
+        x.thing(0, 0, 50, 10, 1, 1);
+        due.is("s is 1 at least", x.still(1), 3 + 2 + 1);
+        x = with(60, 0, "h0-9(t=t)", "5");
+        due.is("h is 0 at least", x.tried(3), 55);
+        x = with(60, 0, "h99(t=t)", "40");
+        due.is("the cloth is never slower than 0", x.tried(3), 60);
+        x = with(60, 0, "a1(t=t);b0-1(t=t);z0-1(t=t)", "5");
+        x.thing(0, 0, 40, 10, 1, 1);
+        due.is("b is 0 at least", x.still(0), 1);
+        // The change of 20 tilts by 1000.
+        x = bound("a20(t=t);b9999(t=t)", "20", 50);
+        due.is("b is 999 at most", x.still(4), 1);
+        x = bound("a20(t=t);b9999(t=t)", "20", 49);
+        due.is("980 it bears", x.still(4), 0);
     }
 
     private static int ending(String law) {
@@ -428,6 +464,17 @@ public final class PromisesTest {
         due.is("first on cloth", x.still(30), 0);
     }
 
+    private static void stillTen() {
+        // Ten in a row; the last but one is slower than the last one alone.
+        ClothPull x = with(100, 0, "a1(i<9);a5(i=9);b999(t=t)", "5");
+        for (int i = 0; i < 10; i++) x.thing(i, 0, 10 + 8 * i, 4, 1, 1);
+        x.thing(8, 0, 77, 4, 1, 1);
+        x.thing(9, 0, 82, 4, 1, 1);
+        due.is("the last two of ten", x.still(7), 768);
+        due.is("all ten stand", x.still(0), 10);
+        due.is("most of ten", x.most(1), 1023);
+    }
+
     private static ClothPull folded(int place) {
         ClothPull x = with(60, 8, "j7(t=t);b999(t=t)", "10");
         x.thing(0, 0, place, 10, 5, 10);
@@ -560,6 +607,32 @@ public final class PromisesTest {
         x.thing(0, 0, 10, 1, 1, 1);
         int[] only = {4, 7, 3, 1, 0};
         for (int w = 0; w < 5; w++) due.is("only best " + w, x.best(w), only[w]);
+        Due.law(x, "a1(!(t<6&p=12|t>5&p=1))");
+        int[] last = {12, 1, 6, 1, 0};
+        for (int w = 0; w < 5; w++) due.is("last best " + w, x.best(w), last[w]);
+        Due.law(x, "a1(!(t<1&p=1|t>0&p=12))");
+        int[] other = {1, 12, 1, 1, 0};
+        for (int w = 0; w < 5; w++) due.is("other best " + w, x.best(w), other[w]);
+        // Whatever of a thing is changed, and the table, and what is undone, changes it.
+        String[] asks = {"k=1", "x=9", "f=2", "g=2", "w=1", "l=1"};
+        int[][] things = {{1, 10, 1, 1, 1, 0, 0}, {0, 9, 1, 1, 1, 0, 0}, {0, 10, 2, 1, 1, 0, 0}, {0, 10, 1, 1, 2, 0, 0}, {0, 10, 1, 1, 1, 1, 0}, {0, 10, 1, 1, 1, 0, 1}};
+        for (int i = 0; i < asks.length; i++) {
+            Due.law(x, "a1(" + asks[i] + ")");
+            x.thing(0, 0, 10, 1, 1, 1);
+            due.is("it stands, not " + asks[i], x.best(3), 1);
+            int[] v = things[i];
+            x.keep();
+            x.thing(0, v[0], v[1], v[2], v[3], v[4]);
+            x.more(0, v[5], v[6], 0);
+            due.is("it does not: " + asks[i], x.best(2) * 10 + x.best(3), 10);
+            x.undo();
+            due.is("it stands again", x.best(3), 1);
+        }
+        Due.law(x, "a1(t=t);b1(t=t)");
+        x.thing(0, 0, 10, 2, 3, 1);
+        due.is("a tilt of 1", x.best(4) > 0, true);
+        x.thing(0, 0, 10, 2, 4, 1);
+        due.is("a tilt of 2", x.best(4), 0);
     }
 
     private static ClothPull frail() {
@@ -577,7 +650,7 @@ public final class PromisesTest {
         due.is("put 0", x.put(3, 0), 1);
         due.is("put 1", x.put(3, 1), 0);
         due.is("nothing is changed", x.thingIs(0, 1), 40);
-        for (int w : new int[] {-1, 2, 9, 13, 35, BIG, SMALL}) due.is("put what " + w, x.put(3, w), -1);
+        for (int w : new int[] {-1, 2, 9, 13, 32, 33, BIG, SMALL}) due.is("put what " + w, x.put(3, w), -1);
         for (int s : new int[] {0, 1, 2, 5, 7, 1027, -1, BIG, SMALL}) due.is("put of " + s, x.put(s, 10), -1);
         x.thing(2, 0, 50, 10, 10, 10);
         due.is("put 7: least row", x.put(7, 0), 0);
@@ -674,6 +747,14 @@ public final class PromisesTest {
                 due.is("empty then", x.count(6), 0);
             }
         }
+        // As many ticks as the cloth needs: five at 8 of 33 inches; the fifth one slows it by 1 alone.
+        ClothPull y = with(60, 0, "a6(p=8);s1(p>0);s9(t=t);b999(t=t)", "1");
+        y.cloth(33);
+        y.thing(0, 0, 24, 10, 1, 1);
+        Due.feed(y, 4);
+        due.is("the pace of 8", y.howQuick(1), 8);
+        Due.feed(y, 24);
+        due.is("all other paces", y.howQuick(0), 39);
         due.is("no tape", x.howQuick(0), -1);
         Due.feed(x, 5);
         for (int w : new int[] {-1, 2, BIG, SMALL}) due.is("howQuick " + w, x.howQuick(w), -1);
@@ -797,8 +878,10 @@ public final class PromisesTest {
         due.is("two of them", x.check(2), -1);
         x.feed(30, 7, 98, 0, 0);
         due.is("one that is not told", x.check(5), 1);
-        x.feed(30 | 1 << 24, 0, 0, 0, 0);
-        due.is("all four bytes", x.check(1), 0);
+        for (int bit = 8; bit < 32; bit += 8) {
+            x.feed(30 | 1 << bit, 0, 0, 0, 0);
+            due.is("all four bytes", x.check(1), 0);
+        }
         x.feed(-1, 0, 0, 0, 0);
         due.is("a number below 0", x.check(1), 0);
         x.feed(-1, 0, 0, 0, 0);

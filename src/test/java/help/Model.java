@@ -491,8 +491,7 @@ final class Model {
         for (int p = 1; p <= 40; p++) if (steady(now, even(p, now.end)).all()) return p;
         return -2;
     }
-    int best(int what) {
-        if (what < 0 || what > 4) return -1;
+    int[] best() {
         int[] best = null;
         for (int p = 1; p <= 12; p++) for (int q = 1; q <= 12; q++) for (int k = 1; k <= 6; k++) {
             List<Integer> paces = new ArrayList<>();
@@ -504,7 +503,7 @@ final class Model {
                 best = new int[] {p, q, k, e.standing(), e.inches()};
             }
         }
-        return best[what];
+        return best;
     }
     int put(int things, int what) {
         if (Integer.bitCount(things) < 2 || Integer.bitCount(things) > 5 || (things & ~now.bits()) != 0) return -1;
