@@ -247,6 +247,8 @@ public final class PromisesTest {
         int[] wanted = {7, 3, 2, 10, 7, 10, 4, 5, 0, 9, 9, 0, 0, 14, 20, 12, 5, 2,
             3, 7, 7, 28, 20, 0, 7, 3, 39, 1};
         for (int i = 0; i < amounts.length; i++) due.is("a" + amounts[i], quicker("a" + amounts[i] + "(t=t)"), wanted[i]);
+        due.is("a long row of &", quicker("a7(" + "1=1&".repeat(36) + "1=1)"), 7);
+        due.is("a long row of |", quicker("a7(" + "1=2|".repeat(36) + "1=1)"), 7);
         due.is("the first that holds", quicker("a3(t=1);a4(t=0);a5(t=t)"), 4);
         due.is("none holds", quicker("a3(t=1);a4(t>0);a5(t<0)"), 0);
         due.is("none of the letter", quicker("j3(t=t)"), 0);
@@ -665,6 +667,11 @@ public final class PromisesTest {
         for (int i = 3; i < 6; i++) x.thing(i, 0, 30 + i, 1, 1, 1);
         due.is("five", x.put(31, 10), 5 + 1);
         due.is("six are too many", x.put(63, 10), -1);
+        // Each falls but at the place of the one that mirrors it: the last row of all.
+        x = with(60, 0, "a1(!x=[5-i]*5)", "5");
+        for (int i = 0; i < 5; i++) x.thing(i, 0, 5 + 5 * i, 1, 1, 1);
+        due.is("the last row stands", x.put(31, 10), 5);
+        for (int i = 0; i < 5; i++) due.is("the last row, " + i, x.put(31, i), 4 - i);
     }
 
     private static void most() {
@@ -878,7 +885,7 @@ public final class PromisesTest {
         due.is("two of them", x.check(2), -1);
         x.feed(30, 7, 98, 0, 0);
         due.is("one that is not told", x.check(5), 1);
-        for (int bit = 8; bit < 32; bit += 8) {
+        for (int bit = 8; bit < 32; bit++) {
             x.feed(30 | 1 << bit, 0, 0, 0, 0);
             due.is("all four bytes", x.check(1), 0);
         }
