@@ -15,6 +15,14 @@ final class Due {
         is(what, got ? 1 : 0, want ? 1 : 0);
     }
 
+    void is(String what, String got, String want) {
+        asked++;
+        if (!got.equals(want)) {
+            wrong++;
+            System.out.println(what + " answered \"" + got + "\", due is \"" + want + "\"");
+        }
+    }
+
     /** Tells how it went, and ends the program with 1 if anything was wrong. */
     void end() {
         System.out.println(wrong == 0 ? asked + " answers are as due" : wrong + " answers are not as due");
