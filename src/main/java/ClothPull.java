@@ -1030,6 +1030,10 @@ public final class ClothPull {
             }
         }
 
+        int placeOf(int i) {
+            return within(i, 0, THINGS - 1) ? place[i] : NONE;
+        }
+
         int standingSet() {
             return told & ~(fallen | over);
         }
@@ -1154,10 +1158,10 @@ public final class ClothPull {
         private final Law law;
         private final int[] speed = new int[THINGS];
         private final int[] ahead = new int[THINGS];
-        private final int[] order = new int[THINGS];
+        private final int[] line = new int[THINGS];
         private final int[] folds = new int[FOLDS];
         private int foldCount = 0;
-        private int standing = 0;
+        private int inLine = 0;
         private int gone = 0;
         private int quick = 0;
         private int onCloth = 0;
@@ -1178,13 +1182,8 @@ public final class ClothPull {
         private void begin() {
             out.begin(table);
             gone = 0;
-            standing = 0;
             for (int i = 0; i < THINGS; i++) {
                 speed[i] = 0;
-                if (table.has(i)) {
-                    order[standing] = i;
-                    standing++;
-                }
             }
             foldCount = 0;
             for (int q = 0; q < FOLDS; q++) {
@@ -1196,8 +1195,9 @@ public final class ClothPull {
         }
 
         private boolean moves() {
-            for (int k = 0; k < standing && k < THINGS; k++) {
-                if (speed[order[k]] > 0) {
+            int standing = out.standingSet();
+            for (int i = 0; i < THINGS; i++) {
+                if (speed[i] > 0 && (standing & (1 << i)) != 0) {
                     return true;
                 }
             }
@@ -1208,22 +1208,29 @@ public final class ClothPull {
             pullCloth(t);
             onCloth = 0;
             touching = 0;
-            for (int k = 0; k < standing && k < THINGS; k++) {
-                int was = speed[order[k]];
-                feelCloth(order[k]);
-                shake(order[k], Math.abs(speed[order[k]] - was));
+            int standing = out.standingSet();
+            for (int i = 0; i < THINGS; i++) {
+                if ((standing & (1 << i)) != 0) {
+                    int was = speed[i];
+                    feelCloth(i);
+                    shake(i, Math.abs(speed[i] - was));
+                }
             }
-            leaveOut(out.fallen);
-            for (int k = 0; k < standing && k < THINGS; k++) {
-                slide(order[k]);
+            standing = out.standingSet();
+            for (int i = 0; i < THINGS; i++) {
+                if ((standing & (1 << i)) != 0) {
+                    slide(i);
+                }
             }
-            leaveOut(out.over);
-            sort();
-            for (int k = 0; k + 1 < standing && k + 1 < THINGS; k++) {
-                touch(order[k], order[k + 1]);
+            lineUp();
+            for (int k = 0; k + 1 < inLine && k + 1 < THINGS; k++) {
+                touch(line[k], line[k + 1]);
             }
-            for (int k = 0; k < standing && k < THINGS; k++) {
-                lead(order[k]);
+            standing = out.standingSet();
+            for (int i = 0; i < THINGS; i++) {
+                if ((standing & (1 << i)) != 0) {
+                    lead(i);
+                }
             }
             out.touched |= touching;
         }
@@ -1319,34 +1326,28 @@ public final class ClothPull {
             }
         }
 
-        private void leaveOut(int set) {
-            int left = 0;
-            for (int k = 0; k < standing && k < THINGS; k++) {
-                if ((set & (1 << order[k])) == 0) {
-                    order[left] = order[k];
-                    left++;
+        /** Those that stand yet, from the edge on, of like places the lower number first. */
+        private void lineUp() {
+            inLine = 0;
+            int standing = out.standingSet();
+            for (int i = 0; i < THINGS; i++) {
+                if ((standing & (1 << i)) != 0) {
+                    int hole = inLine;
+                    for (; hole > 0 && hole < THINGS && out.placeOf(line[hole - 1]) > out.place[i]; hole--) {
+                        line[hole] = line[hole - 1];
+                    }
+                    if (hole >= 0 && hole < THINGS) {
+                        line[hole] = i;
+                        inLine++;
+                    }
                 }
             }
-            standing = left;
-        }
-
-        private void sort() {
-            for (int k = 1; k < standing && k < THINGS; k++) {
-                int i = order[k];
-                int hole = k;
-                for (; hole > 0 && isBehind(order[hole - 1], i); hole--) {
-                    order[hole] = order[hole - 1];
-                }
-                order[hole] = i;
-            }
-        }
-
-        private boolean isBehind(int i, int other) {
-            int way = out.place[i] - out.place[other];
-            return way > 0 || way == 0 && i > other;
         }
 
         private void touch(int front, int behind) {
+            if (!within(front, 0, THINGS - 1) || !within(behind, 0, THINGS - 1)) {
+                return;
+            }
             int near = (table.side(front, FOOT) + table.side(behind, FOOT)) / 2;
             if (out.place[behind] - out.place[front] >= near || speed[behind] <= speed[front]) {
                 return;
